@@ -1495,58 +1495,38 @@ public final class SlitDrum {
         private boolean isClause() {
             if (!hasRules && takes('s')) {
                 hasRules = true;
-                return areRules();
+                return areItems(RULES, RULE_LEAST, RULE_MOST, rules, 0);
             }
             if (wheels < MOST_WHEELS && takes('w')) {
+                int start = 4 * wheels;
                 wheels++;
-                return areTraits(4 * (wheels - 1));
+                System.arraycopy(TRAIT_WITHOUT, 0, traits, start, 4);
+                return areItems(TRAITS, TRAIT_LEAST, TRAIT_MOST, traits, start);
             }
             nextSign();
             return false;
         }
 
-        private boolean areRules() {
+        /** Items till another sign comes; a letter that was there is the fault itself. */
+        private boolean areItems(String letters, int[] least, int[] most, int[] values, int start) {
             int had = 0;
-            for (int i = 0; i <= 3; i++) {
-                int which = nextOf(RULES);
-                if (which < 0 || which >= 3) {
+            for (int i = 0; i <= letters.length(); i++) {
+                int which = nextOf(letters);
+                if (which < 0 || which >= least.length || which >= most.length) {
                     return true;
                 }
-                int value = item(had >> which & 1, RULE_LEAST[which], RULE_MOST[which]);
-                if (value == NONE) {
+                if ((had >> which & 1) != 0) {
                     return false;
                 }
                 had |= 1 << which;
-                rules[which] = value;
-            }
-            return false;
-        }
-
-        private boolean areTraits(int start) {
-            System.arraycopy(TRAIT_WITHOUT, 0, traits, start, 4);
-            int had = 0;
-            for (int i = 0; i <= 4; i++) {
-                int which = nextOf(TRAITS);
-                if (which < 0 || which >= 4) {
-                    return true;
-                }
-                int value = item(had >> which & 1, TRAIT_LEAST[which], TRAIT_MOST[which]);
-                if (value == NONE) {
+                here++;
+                int value = number(2, least[which], most[which]);
+                if (value == NONE || start + which >= values.length) {
                     return false;
                 }
-                had |= 1 << which;
-                traits[start + which] = value;
+                values[start + which] = value;
             }
             return false;
-        }
-
-        /** The number behind a letter; NONE at the letter itself if it was there. */
-        private int item(int had, int least, int most) {
-            if (had != 0) {
-                return NONE;
-            }
-            here++;
-            return number(2, least, most);
         }
 
         /** Makes the scene that of the lantern just read, places as they were told. */
