@@ -20,6 +20,7 @@ public final class SlitDrum {
     private static final int LAST_FLASH = 60;
     private static final int DAY = 24;
     private static final int BLANK = 26;
+    private static final int SIGHT_BITS = 5;
 
     private static final int NO_SUCH = 0;
     private static final int OUT = 1;
@@ -391,7 +392,7 @@ public final class SlitDrum {
         if (i < 0 || i >= scene.rowCount() || wheel < 0 || wheel >= MOST_WHEELS) {
             return NONE;
         }
-        return scene.rowBefore(i) >> 5 * wheel & 31;
+        return scene.rowBefore(i) >> SIGHT_BITS * wheel & (1 << SIGHT_BITS) - 1;
     }
 
     private int refused(int why) {
@@ -422,7 +423,7 @@ public final class SlitDrum {
         int row = 0;
         for (int w = 0; w < MOST_WHEELS; w++) {
             int sight = w < scene.wheelCount ? shown(scene.wheels[w]) : BLANK;
-            row |= sight << 5 * w;
+            row |= sight << SIGHT_BITS * w;
         }
         scene.addRow(row);
         if (allShowOne() && scene.coins < MOST_GOODS) {
@@ -1111,10 +1112,11 @@ public final class SlitDrum {
 
     /** A law as a row of codes: numbers as they are, all else below 0. */
     private static final class Law {
-        static final int LETTER = -1;
         static final int NOT = -10;
         static final int UNLESS = -11;
         static final int ANSWER = -12;
+        private static final int LETTER = -1;
+        private static final int SIGN = -100;
         private static final int BOUND = 1000000;
 
         private final int[] codes;
@@ -1129,9 +1131,8 @@ public final class SlitDrum {
             return LETTER - letter;
         }
 
-        /** Signs are coded by their own bytes, below those of the rest. */
         static int signCode(int sign) {
-            return -100 - sign;
+            return SIGN - sign;
         }
 
         int worth(int[] letters) {
@@ -1162,7 +1163,7 @@ public final class SlitDrum {
             } else {
                 int right = pull();
                 int left = pull();
-                pile(joined(-100 - code, left, right));
+                pile(joined(SIGN - code, left, right));
             }
         }
 

@@ -87,6 +87,13 @@ public final class ActTest {
         SlitDrum unlike = Checks.drum("sf1o0k0;w;w;wp1", "ab");
         unlike.ticks(5);
         checks.same("not all", unlike.rule(2), 0);
+        SlitDrum first = Checks.drum("sf1o0k0;wp1;w;w;w", "ab");
+        first.ticks(5);
+        checks.same("not the first", first.rule(2), 0);
+        checks.same("four in the log", first.log(0, 0) * 1000 + first.log(0, 3), 1000);
+        SlitDrum four = Checks.drum("sf1k0;wv1;wv1;wv3b1;wv5", "abcd");
+        four.ticks(5);
+        checks.same("all four", four.rule(2), 5);
         SlitDrum single = Checks.drum("sf1o0k0;w", "ab");
         single.ticks(5);
         checks.same("one wheel", single.rule(2), 0);

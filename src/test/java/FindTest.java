@@ -66,6 +66,22 @@ public final class FindTest {
         // strip 0: speeds 0, 2, 4, 6, 8 show a always; strip 1: 0, 3, 6, 9 from place 2 too.
         checks.same("no tick tells them apart", drum.ask(), 0);
         checks.same("nine", drum.fits(-1), 9);
+        askingLate();
+    }
+
+    private static void askingLate() {
+        SlitDrum drum = new SlitDrum();
+        PlainDrum plain = new PlainDrum();
+        for (String strip : "c.abcc.abc.da.d e.ebccecaccdegc b.b.caccd.d..ca hbbfehabehgabcg.".split(" ")) {
+            Checks.tell(drum, 2, strip);
+            plain.strips.add(strip.replace('.', '{'));
+        }
+        for (int[] note : new int[][] {{27, 0}, {74, 0}, {88, 1}, {41, 1}}) {
+            drum.noted(note[0], note[1], false);
+            plain.noted(note[0], note[1], false);
+        }
+        checks.same("the last tick there is", plain.ask(), 60);
+        checks.same("the last tick there is", drum.ask(), 60);
     }
 
     private static void gaming() {
@@ -79,6 +95,10 @@ public final class FindTest {
         checks.same("blank ones not", drum.game(1, 1, 1, 0), 3);
         checks.same("turner", drum.game(1, 1, 1, 1), 8);
         checks.same("y 0", drum.game(1, 2, 0, 1), 8);
+        SlitDrum way = Checks.drum("wp2;wr1", "abcdefghijklmnop", "z.");
+        checks.same("six of sixteen", way.game(0, 1, 1, 0), 11);
+        checks.same("z counts", way.game(1, 1, 1, 0), 1);
+        checks.same("forward", Checks.drum("w", "abcdef9.").game(0, 1, 1, 1), 4);
         int hidden = -1000000;
         checks.same("wheel", drum.game(2, 1, 1, 0), hidden);
         checks.same("x 0", drum.game(0, 0, 1, 0), hidden);
@@ -111,6 +131,10 @@ public final class FindTest {
             checks.same("below", drum.rests(0, -2), -1);
             checks.same("no wheel", drum.rests(1, -1), -1);
         }
+        SlitDrum two = Checks.drum("w", "babb.b.ac.dad");
+        checks.same("two", two.rests(0, -1), 2);
+        checks.same("x 2", two.rests(0, 0), 23);
+        checks.same("x 4", two.rests(0, 1), 43);
         checks.same("bare: y 3 alone", Checks.drum("wr5").rests(0, 0), 13);
     }
 

@@ -68,6 +68,9 @@ public final class SightTest {
         checks.same("seems 1 2", drum.seems(1, 2), -1);
         checks.same("seems 2 1", drum.seems(2, 1), -1);
         checks.same("seems 2 60", drum.seems(2, 60), 0);
+        SlitDrum off = Checks.drum("wv3p7", "abcdefgh");
+        checks.same("from place 7", off.seems(0, 1), 3);
+        checks.same("from place 7", off.seems(0, 4), 4);
         drum.law(Checks.tell(drum, 1, "y:f"));
         checks.same("f is the flash that is set", drum.seems(0, 1), -2);
     }
@@ -118,6 +121,14 @@ public final class SightTest {
         checks.same("at 55", drum.meets(0, 1), 55);
         checks.same("never", drum.meets(0, 2), -1);
         checks.same("blank ones do not", drum.meets(1, 3), -1);
+        // The law moves wheels once a day, so that they show a together behind 42 moves alone.
+        SlitDrum late = Checks.drum("w;wr1", "...a.........", ".........a.", "a");
+        late.law(Checks.tell(late, 1, "y:t=14?1"));
+        checks.same("at 999", late.meets(0, 1), 999);
+        checks.same("reads at 999", late.reads(2), 999);
+        late.law(Checks.tell(late, 1, "y:t=15?1"));
+        checks.same("at 1000", late.meets(0, 1), -1);
+        checks.same("reads at 1000", late.reads(2), -1);
         SlitDrum now = Checks.drum("w;w", "ab");
         checks.same("now", now.meets(1, 0), 0);
     }

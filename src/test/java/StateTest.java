@@ -21,6 +21,7 @@ public final class StateTest {
         checks.throwsNoSuch("wheel(0, -1)", drum, 0, -1);
         pictures(drum);
         laws();
+        letters();
         touches(drum);
         counts();
         checks.end();
@@ -96,7 +97,29 @@ public final class StateTest {
         worth("y:!1=2&1=2?6;y:7", 7);
         worth("y:!(1=2&1=2)?6;y:7", 6);
         worth("y:1+1=2?6", 6);
+        worth("y:1<1?6", 0);
+        worth("y:1>1?6", 0);
+        worth("y:9999*9999-9999*100-90", 10);
+        worth("y:0-9999*9999+9999*100+90", -10);
+        worth("y:1=2?9999;y:1=1?3;y:4", 3);
+        worth("y:n=0?p+5", 5);
         worth("y : 1 < 2 ? [ f - 1 ] * 2", 12);
+    }
+
+    /** The letters behind a tick, as they are ahead of the next one. */
+    private static void letters() {
+        SlitDrum drum = Checks.drum("sf7o99;wv3b1p2;wv2p9", "abcdefghijklmnop");
+        drum.law(Checks.tell(drum, 1, "y:t"));
+        drum.ticks(25);
+        checks.same("0 + 1 .. + 23 + 0, each held within 15", drum.wheel(0, 2), (2 + 105 + 9 * 15) % 16);
+        drum.law(Checks.tell(drum, 1, "y:p"));
+        int place = drum.wheel(1, 2);
+        drum.ticks(1);
+        checks.same("twice the place", drum.wheel(1, 2), 2 * place % 16);
+        drum.law(Checks.tell(drum, 1, "y:n-p+v"));
+        place = drum.wheel(0, 2);
+        drum.ticks(1);
+        checks.same("what it shows is its place here", drum.wheel(0, 2), (place + 13) % 16);
     }
 
     private static void touches(SlitDrum drum) {
