@@ -97,32 +97,39 @@ public final class SlitDrum {
     }
 
     public int fault(int sort) {
-        switch (sort) {
-            case 0: return lanternReader.faultIn(tape, tapeSize);
-            case 1: return lawReader.faultIn(tape, tapeSize);
-            case 2: return stripReader.faultIn(tape, tapeSize);
-            default: return -2;
+        Reader reader = readerOf(sort);
+        if (reader == null) {
+            return -2;
         }
+        return reader.isWhole() ? NONE : reader.here;
     }
 
     public int text(int sort) {
-        int number = NONE;
-        switch (sort) {
-            case 0: number = tellLantern(); break;
-            case 1: number = tellLaw(); break;
-            case 2: number = tellStrip(); break;
-            default: break;
+        Reader reader = readerOf(sort);
+        if (reader == null || !reader.isWhole()) {
+            return NONE;
         }
+        int number = sort == 0 ? tellLantern() : sort == 1 ? tellLaw() : tellStrip();
         if (number != NONE) {
             tapeSize = 0;
         }
         return number;
     }
 
-    private int tellLantern() {
-        if (lanternReader.faultIn(tape, tapeSize) != NONE) {
-            return NONE;
+    /** The reader of that sort, at the tape's beginning. */
+    private Reader readerOf(int sort) {
+        Reader reader = null;
+        switch (sort) {
+            case 0: reader = lanternReader; break;
+            case 1: reader = lawReader; break;
+            case 2: reader = stripReader; break;
+            default: return null;
         }
+        reader.start(tape, tapeSize);
+        return reader;
+    }
+
+    private int tellLantern() {
         lanternReader.tell(scene);
         for (int w = 0; w < scene.wheelCount; w++) {
             Wheel told = scene.wheels[w];
@@ -135,7 +142,7 @@ public final class SlitDrum {
     }
 
     private int tellLaw() {
-        if (lawCount >= laws.length || lawReader.faultIn(tape, tapeSize) != NONE) {
+        if (lawCount >= laws.length) {
             return NONE;
         }
         laws[lawCount] = new Law(lawReader.written());
@@ -145,7 +152,7 @@ public final class SlitDrum {
 
     /** Wheels that were bare till now stand at place 0, so their places stay in bounds of the new strip. */
     private int tellStrip() {
-        if (stripCount >= strips.length || stripReader.faultIn(tape, tapeSize) != NONE) {
+        if (stripCount >= strips.length) {
             return NONE;
         }
         strips[stripCount] = new Strip(stripReader.written());
@@ -470,7 +477,7 @@ public final class SlitDrum {
         if (!isWheel(wheel) || i < 0 || i > 99) {
             return NONE;
         }
-        return courseOf(wheel).shownAfter(i * scene.flash);
+        return traced(wheel).shownAfter(i * scene.flash);
     }
 
     public int seems(int wheel, int f) {
@@ -479,7 +486,7 @@ public final class SlitDrum {
         }
         Wheel one = scene.wheels[wheel];
         int size = stripOf(one).size();
-        int by = round(courseOf(wheel).placeAfter(f) - one.place, size);
+        int by = round(traced(wheel).placeAfter(f) - one.place, size);
         return 2 * by > size ? by - size : by;
     }
 
@@ -487,7 +494,7 @@ public final class SlitDrum {
         if (!isWheel(wheel)) {
             return NONE;
         }
-        Course course = courseOf(wheel);
+        Course course = traced(wheel);
         int found = 0;
         for (int f = 1; f <= LAST_FLASH; f++) {
             if (course.isStillBy(f)) {
@@ -518,32 +525,20 @@ public final class SlitDrum {
     }
 
     public int again(int wheel) {
-        if (wheel == NONE) {
-            return againAll();
-        }
-        if (!isWheel(wheel)) {
+        boolean ofAll = wheel == NONE && isLit();
+        if (!ofAll && !isWheel(wheel)) {
             return NONE;
         }
-        Course course = courseOf(wheel);
-        for (int n = 1; n <= LAST_SIGHT; n++) {
-            if (course.isHomeAfter(n)) {
-                return n;
-            }
-        }
-        return NONE;
-    }
-
-    private int againAll() {
-        if (!isLit()) {
-            return NONE;
-        }
+        int first = ofAll ? 0 : wheel;
+        int end = ofAll ? scene.wheelCount : wheel + 1;
+        int most = ofAll ? LAST_TICK : LAST_SIGHT;
         traceAll();
-        for (int n = 1; n <= LAST_TICK; n++) {
-            boolean all = true;
-            for (int w = 0; w < scene.wheelCount && all; w++) {
-                all = courses[w].isHomeAfter(n);
+        for (int n = 1; n <= most; n++) {
+            boolean home = true;
+            for (int w = first; w < end && home; w++) {
+                home = courses[w].isHomeAfter(n);
             }
-            if (all) {
+            if (home) {
                 return n;
             }
         }
@@ -554,8 +549,8 @@ public final class SlitDrum {
         if (!isWheel(one) || !isWheel(other) || one == other) {
             return NONE;
         }
-        Course first = courseOf(one);
-        Course second = courseOf(other);
+        Course first = traced(one);
+        Course second = traced(other);
         for (int n = 0; n <= LAST_SIGHT; n++) {
             int sight = first.shownAfter(n);
             if (sight != BLANK && sight == second.shownAfter(n)) {
@@ -583,21 +578,24 @@ public final class SlitDrum {
     }
 
     private int nextPlace(int wheel) {
-        Wheel one = scene.wheels[wheel];
-        courses[wheel].set(one, stripOf(one), lawNow(), scene.flash, scene.tick);
-        return courses[wheel].movedFrom(one.place, scene.tick);
+        return courseOf(wheel).movedFrom(scene.wheels[wheel].place, scene.tick);
     }
 
     private Course courseOf(int wheel) {
         Wheel one = scene.wheels[wheel];
         courses[wheel].set(one, stripOf(one), lawNow(), scene.flash, scene.tick);
-        courses[wheel].trace();
         return courses[wheel];
+    }
+
+    private Course traced(int wheel) {
+        Course course = courseOf(wheel);
+        course.trace();
+        return course;
     }
 
     private void traceAll() {
         for (int w = 0; w < scene.wheelCount; w++) {
-            courseOf(w);
+            traced(w);
         }
     }
 
@@ -925,10 +923,6 @@ public final class SlitDrum {
         return (int) Math.max(least, Math.min(most, number));
     }
 
-    private static boolean isDigit(int sign) {
-        return sign >= '0' && sign <= '9';
-    }
-
     // ---- classes
 
     /** A wheel as it stands; which pictures are round it only its strip's number tells. */
@@ -1139,40 +1133,33 @@ public final class SlitDrum {
             height = 0;
             for (int i = 0; i < codes.length; i++) {
                 int code = codes[i];
+                int letter = LETTER - code;
                 if (code == ANSWER) {
                     return pull();
                 }
                 if (code == UNLESS) {
                     int target = i + 1 < codes.length ? codes[i + 1] : 0;
                     i = pull() != 0 ? i + 1 : Math.max(i + 1, target - 1);
+                } else if (code == NOT) {
+                    pile(1 - pull());
+                } else if (code >= 0) {
+                    pile(code);
+                } else if (letter < letters.length) {
+                    pile(letters[letter]);
                 } else {
-                    work(code, letters);
+                    int right = pull();
+                    pile(within(joined(SIGN - code, pull(), right), -BOUND, BOUND));
                 }
             }
             return 0;
         }
 
-        private void work(int code, int[] letters) {
-            int letter = LETTER - code;
-            if (code >= 0) {
-                pile(code);
-            } else if (letter < letters.length) {
-                pile(letters[letter]);
-            } else if (code == NOT) {
-                pile(1 - pull());
-            } else {
-                int right = pull();
-                int left = pull();
-                pile(joined(SIGN - code, left, right));
-            }
-        }
-
-        private static int joined(int sign, int left, int right) {
+        private static long joined(int sign, int left, int right) {
             switch (sign) {
-                case '+': return within((long) left + right, -BOUND, BOUND);
-                case '-': return within((long) left - right, -BOUND, BOUND);
-                case '*': return within((long) left * right, -BOUND, BOUND);
-                case '/': return right == 0 ? 0 : within((long) left / right, -BOUND, BOUND);
+                case '+': return (long) left + right;
+                case '-': return (long) left - right;
+                case '*': return (long) left * right;
+                case '/': return right == 0 ? 0 : left / right;
                 case '=': return left == right ? 1 : 0;
                 case '<': return left < right ? 1 : 0;
                 case '>': return left > right ? 1 : 0;
@@ -1406,23 +1393,18 @@ public final class SlitDrum {
         /** Reads all; if it is wrong, here is the fault. */
         abstract boolean isWhole();
 
-        int faultIn(int[] tape, int tapeSize) {
+        void start(int[] tape, int tapeSize) {
             signs = tape;
             length = Math.min(tapeSize, tape.length);
             here = 0;
-            return isWhole() ? NONE : here;
-        }
-
-        int signAt(int i) {
-            return i >= 0 && i < length ? signs[i] : END;
         }
 
         /** The next sign that is no blank. */
         int nextSign() {
-            while (here < length && signAt(here) == ' ') {
+            while (here < length && signs[here] == ' ') {
                 here++;
             }
-            return signAt(here);
+            return here < length ? signs[here] : END;
         }
 
         boolean takes(int sign) {
@@ -1431,34 +1413,29 @@ public final class SlitDrum {
             return there;
         }
 
-        /** A number; NONE, and here is the fault, if there is none such. */
+        /** The number that begins here; NONE, and here is the fault, if there is none such. */
         int number(int mostDigits, int least, int most) {
-            nextSign();
             int digits = 0;
             int value = 0;
-            while (digits < mostDigits && isDigit(signAt(here + digits))) {
-                value = value * 10 + signAt(here + digits) - '0';
+            int end = Math.min(length, here + mostDigits + 1);
+            while (here + digits < end && signs[here + digits] >= '0' && signs[here + digits] <= '9') {
+                value = value * 10 + signs[here + digits] - '0';
                 digits++;
             }
-            int behind = here + digits;
             if (digits == 0) {
                 return NONE;
             }
-            if (isDigit(signAt(behind))) {
-                here = behind;
+            if (digits > mostDigits) {
+                here += mostDigits;
                 return NONE;
             }
-            if (value < least || value > most) {
-                here = behind - 1;
-                return NONE;
-            }
-            here = behind;
-            return value;
+            boolean right = value >= least && value <= most;
+            here += right ? digits : digits - 1;
+            return right ? value : NONE;
         }
 
-        /** Which of these letters comes next; NONE: none of them. */
-        int nextOf(String letters) {
-            int sign = nextSign();
+        /** Which of these letters the sign is; NONE: none of them. */
+        static int letterOf(String letters, int sign) {
             return sign == END ? NONE : letters.indexOf((char) sign);
         }
     }
@@ -1512,7 +1489,7 @@ public final class SlitDrum {
         private boolean areItems(String letters, int[] least, int[] most, int[] values, int start) {
             int had = 0;
             for (int i = 0; i <= letters.length(); i++) {
-                int which = nextOf(letters);
+                int which = letterOf(letters, nextSign());
                 if (which < 0 || which >= least.length || which >= most.length) {
                     return true;
                 }
@@ -1521,6 +1498,7 @@ public final class SlitDrum {
                 }
                 had |= 1 << which;
                 here++;
+                nextSign();
                 int value = number(2, least[which], most[which]);
                 if (value == NONE || start + which >= values.length) {
                     return false;
@@ -1721,7 +1699,7 @@ public final class SlitDrum {
                 here++;
                 return isSum(depth + 1) && takes(']');
             }
-            int letter = nextOf(LETTERS);
+            int letter = letterOf(LETTERS, sign);
             if (letter >= 0) {
                 here++;
                 write(Law.letterCode(letter));
