@@ -51,7 +51,7 @@ public final class SlitDrum {
 
     public SlitDrum() {
         for (int w = 0; w < courses.length; w++) {
-            courses[w] = new Course(bare);
+            courses[w] = new Course();
         }
     }
 
@@ -1191,7 +1191,7 @@ public final class SlitDrum {
 
         private int velocity = 0;
         private int home = 0;
-        private Strip strip;
+        private Strip strip = new Strip(new int[] {BLANK});
         private Law law = null;
         private int tick = 0;
         private final int[] letters = new int[6];
@@ -1201,10 +1201,6 @@ public final class SlitDrum {
         private int loopStart = 0;
         private long[] parts = new long[MOST_PICTURES];
         private long[] partsThen = new long[MOST_PICTURES];
-
-        Course(Strip strip) {
-            this.strip = strip;
-        }
 
         void set(Wheel wheel, Strip strip, Law law, int flash, int tick) {
             this.strip = strip;
