@@ -21,6 +21,7 @@ public final class SlitDrum {
     private static final int DAY = 24;
     private static final int BLANK = 26;
     private static final int SIGHT_BITS = 5;
+    private static final int MOST_SLIPS = 8;
 
     private static final int NO_SUCH = 0;
     private static final int OUT = 1;
@@ -745,7 +746,7 @@ public final class SlitDrum {
     }
 
     public int odds(int wheel, int n, int chance, int picture) {
-        if (!isWheel(wheel) || n < 0 || n > 8 || chance < 0 || chance > 100
+        if (!isWheel(wheel) || n < 0 || n > MOST_SLIPS || chance < 0 || chance > 100
                 || picture < 0 || picture > BLANK) {
             return NONE;
         }
@@ -1199,8 +1200,6 @@ public final class SlitDrum {
         private final int[] firstStep = new int[MOST_PICTURES * DAY];
         private int steps = 0;
         private int loopStart = 0;
-        private long[] parts = new long[MOST_PICTURES];
-        private long[] partsThen = new long[MOST_PICTURES];
 
         void set(Wheel wheel, Strip strip, Law law, int flash, int tick) {
             this.strip = strip;
@@ -1265,33 +1264,18 @@ public final class SlitDrum {
         }
 
         int partsShowing(int n, int chance, int picture) {
-            Arrays.fill(parts, 0);
-            if (home >= 0 && home < parts.length) {
-                parts[home] = WHOLE;
-            }
-            for (int i = 0; i < n; i++) {
-                slip(chance, tick + i);
-            }
-            long showing = 0;
-            for (int place = 0; place < strip.size() && place < parts.length; place++) {
-                showing += strip.shownAt(place) == picture ? parts[place] : 0;
-            }
-            return (int) showing;
+            return (int) showingOf(WHOLE, home, 0, Math.min(n, MOST_SLIPS), chance, picture);
         }
 
-        private void slip(int chance, int tickThen) {
-            Arrays.fill(partsThen, 0);
-            for (int place = 0; place < strip.size() && place < parts.length; place++) {
-                long slipping = parts[place] * chance / 100;
-                int next = movedFrom(place, tickThen);
-                partsThen[place] += slipping;
-                if (next >= 0 && next < partsThen.length) {
-                    partsThen[next] += parts[place] - slipping;
-                }
+        /** Two parts that come to one place are not joined: each is cut by itself at the next tick. */
+        private long showingOf(long part, int place, int step, int n, int chance, int picture) {
+            if (step >= n) {
+                return strip.shownAt(place) == picture ? part : 0;
             }
-            long[] spare = parts;
-            parts = partsThen;
-            partsThen = spare;
+            long slipping = part * chance / 100;
+            int next = movedFrom(place, tick + step);
+            return showingOf(slipping, place, step + 1, n, chance, picture)
+                    + showingOf(part - slipping, next, step + 1, n, chance, picture);
         }
     }
 

@@ -9,6 +9,7 @@ public final class FindTest {
         gaming();
         resting();
         odds();
+        oddsOfEachPart();
         sharing();
         checks.end();
     }
@@ -148,6 +149,7 @@ public final class FindTest {
         checks.same("back", drum.odds(1, 2, 25, 9), 562500000);
         checks.same("cut", drum.odds(0, 5, 1, 0), 0);
         checks.same("cut", drum.odds(0, 5, 3, 0), 24);
+        checks.same("cut", drum.odds(0, 5, 3, 1), 3926);
         int all = 0;
         for (int picture = 0; picture <= 26; picture++) {
             all += drum.odds(0, 8, 37, picture);
@@ -162,6 +164,28 @@ public final class FindTest {
         checks.same("chance", drum.odds(0, 1, 101, 1), -1);
         checks.same("picture", drum.odds(0, 1, 1, -1), -1);
         checks.same("picture", drum.odds(0, 1, 1, 27), -1);
+    }
+
+    /** Parts that come to one place stay apart; joined ahead of the next cut they would give other answers. */
+    private static void oddsOfEachPart() {
+        SlitDrum two = Checks.drum("w", "ab");
+        checks.same("by turns", two.odds(0, 5, 1, 0), 48039608);
+        checks.same("by turns", two.odds(0, 8, 37, 0), 500010440);
+        checks.same("by turns", two.odds(0, 8, 37, 1), 499989560);
+        SlitDrum ten = Checks.drum("w", "abcdefghij");
+        int[] due = {0, 46, 9804, 970296, 48029804, 950990050, 0};
+        for (int picture = 0; picture < due.length; picture++) {
+            checks.same("slips in any order", ten.odds(0, 5, 1, picture), due[picture]);
+        }
+        SlitDrum held = Checks.drum("wv9", "abc");
+        held.law(Checks.tell(held, 1, "y:p+1"));
+        checks.same("by a law of places", held.odds(0, 8, 99, 0), 925381489);
+        checks.same("by a law of places", held.odds(0, 8, 99, 1), 74618511);
+        held.law(Checks.tell(held, 1, "y:t<4?0;y:1"));
+        checks.same("apart by slips at rest", held.odds(0, 8, 1, 0), 38811988);
+        checks.same("apart by slips at rest", held.odds(0, 8, 1, 1), 960599981);
+        checks.same("apart by slips at rest", held.odds(0, 8, 1, 2), 588031);
+        checks.same("nothing has moved", held.wheel(0, 2), 0);
     }
 
     private static void sharing() {

@@ -963,24 +963,20 @@ final class PlainDrum {
         if (!isWheel(wheel) || n < 0 || n > 8 || chance < 0 || chance > 100 || picture < 0 || picture > 26) {
             return -1;
         }
-        Wheel one = now.wheels.get(wheel).copy();
-        int size = size(one);
-        long[] parts = new long[size];
-        parts[one.place] = 1000000000L;
-        for (int i = 0; i < n; i++) {
-            long[] then = new long[size];
-            for (int place = 0; place < size; place++) {
-                one.place = place;
-                move(one, now.tick + i);
-                long slips = parts[place] * chance / 100;
-                then[place] += slips;
-                then[one.place] += parts[place] - slips;
-            }
-            parts = then;
-        }
         long showing = 0;
-        for (int place = 0; place < size; place++) {
-            showing += shown(wheel, place) == picture ? parts[place] : 0;
+        for (int slips = 0; slips < 1 << n; slips++) {
+            Wheel one = now.wheels.get(wheel).copy();
+            long part = 1000000000L;
+            for (int i = 0; i < n; i++) {
+                long slipping = part * chance / 100;
+                if ((slips >> i & 1) == 1) {
+                    part = slipping;
+                } else {
+                    part -= slipping;
+                    move(one, now.tick + i);
+                }
+            }
+            showing += shown(wheel, one.place) == picture ? part : 0;
         }
         return (int) showing;
     }
