@@ -231,10 +231,36 @@ public final class EdgeFindTest {
     }
 
     private static void p38_blankOnesAreAPictureToo() {
-        SlitDrum drum = with("a..");
-        drum.noted(0, 0, true);
+        SlitDrum drum = with("a.");
+        drum.noted(5, BLANK, true);
         edges.same("ten fit", drum.fits(NONE), 10);
-        edges.same("blank for six, a for four", drum.ask(), 1);
+        edges.same("five and five at 0, ten blank ones at 1", drum.ask(), 0);
+    }
+
+    private static void p38_zToo() {
+        SlitDrum drum = with("aaz", "aa");
+        drum.noted(4, 0, true);
+        drum.noted(2, 25, true);
+        edges.same("six fit", drum.fits(NONE), 6);
+        edges.same("six a at 0 and at 1, six z at 2", drum.ask(), 0);
+    }
+
+    private static void p38_theFirstThatFitsCounts() {
+        SlitDrum drum = with("a...z");
+        drum.noted(4, BLANK, true);
+        drum.noted(5, 25, true);
+        edges.same("six fit", drum.fits(NONE), 6);
+        edges.same("the first", drum.fits(0), 104);
+        edges.same("six z at 0, four blank ones at 1, 2 and 3", drum.ask(), 1);
+    }
+
+    private static void p38_placeZeroOfALaterStrip() {
+        SlitDrum drum = with("z", ".a.zz");
+        drum.noted(5, BLANK, true);
+        drum.noted(4, BLANK, true);
+        edges.same("eight fit", drum.fits(NONE), 8);
+        edges.same("the first", drum.fits(0), 1000);
+        edges.same("ask()", drum.ask(), 1);
     }
 
     // ---- 39: game
@@ -338,6 +364,13 @@ public final class EdgeFindTest {
         }
         edges.same("no more", drum.rests(0, due.length), NONE);
         edges.same("x 1, y 0", Checks.drum("w", SIXTEEN).rests(0, 0), 10);
+    }
+
+    private static void p40_xIsFourAtMost() {
+        SlitDrum drum = Checks.drum("w", "eceea..cfbb..");
+        edges.same("how many", drum.rests(0, NONE), 2);
+        edges.same("x 1, y 3", drum.rests(0, 0), 13);
+        edges.same("x 3, y 3, none by x 5", drum.rests(0, 1), 33);
     }
 
     private static void p40_ofABareWheel() {

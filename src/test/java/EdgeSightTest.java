@@ -207,6 +207,13 @@ public final class EdgeSightTest {
         awayAt(23);
     }
 
+    private static void p25_fOfALawIsTheFlashThatIs() {
+        SlitDrum drum = by("y:f", "sf2;w;wr1", SIXTEEN, "abc");
+        edges.same("by 2 of 16", drum.stands(0, 0), 8);
+        edges.same("how many", drum.stands(0, NONE), 7);
+        edges.same("together()", drum.together(), 24);
+    }
+
     private static void p25_placesCountNotPictures() {
         SlitDrum drum = Checks.drum("wv1", "aaaa");
         edges.same("how many", drum.stands(0, NONE), 15);
@@ -265,6 +272,26 @@ public final class EdgeSightTest {
         for (int wheel = -1; wheel < 3; wheel++) {
             edges.same("again(" + wheel + ")", drum.again(wheel), 1);
         }
+    }
+
+    private static void p27_eachWheelByItself() {
+        SlitDrum drum = Checks.drum("wr1;w;wr2;wr1", "abcde", "abc", "abcdefg");
+        int[] due = {3, 5, 7, 3};
+        for (int wheel = 0; wheel < due.length; wheel++) {
+            edges.same("again(" + wheel + ")", drum.again(wheel), due[wheel]);
+        }
+        edges.same("of all", drum.again(NONE), 105);
+    }
+
+    private static void p27_neverHomeBehindAllPlacesAndHours() {
+        SlitDrum drum = by("y:t=23&p<15?1", "sf60;w;wp15;wp14", SIXTEEN);
+        edges.same("still at 0 for a day", drum.again(0), 1);
+        edges.same("at 15 for good", drum.at(0, 99), 15);
+        edges.same("by 420 ticks", drum.at(0, 7), 15);
+        edges.same("by 360 ticks", drum.at(0, 6), 15);
+        edges.same("by 300 ticks", drum.at(0, 5), 12);
+        SlitDrum next = by("y:t=0&p<15?1", "w", SIXTEEN);
+        edges.same("never", next.again(0), NONE);
     }
 
     private static void p27_notWithinThese() {

@@ -239,6 +239,24 @@ public final class EdgeStateTest {
         moves("y:0-1<0?1;y:2", 1);
     }
 
+    private static void p09_whatHoldsWithOthersAndWithout() {
+        for (String truth : "3=3 2<3 3>2".split(" ")) {
+            moves("y:!" + truth + "?5;y:6", 6);
+            moves("y:!!" + truth + "?5;y:6", 5);
+            moves("y:" + truth + "&1=1?5;y:6", 5);
+            moves("y:1=1&" + truth + "?5;y:6", 5);
+            moves("y:" + truth + "&(" + truth + ")?5;y:6", 5);
+            moves("y:" + truth + "|1=2?5;y:6", 5);
+            moves("y:1=2|" + truth + "?5;y:6", 5);
+            moves("y:1=2&" + truth + "?5;y:6", 6);
+        }
+        for (String wrong : "2=3 3=2 3<3 3<2 3>3 2>3".split(" ")) {
+            moves("y:!" + wrong + "?5;y:6", 5);
+            moves("y:" + wrong + "&1=1?5;y:6", 6);
+            moves("y:" + wrong + "|1=2?5;y:6", 6);
+        }
+    }
+
     private static void p09_andBindsMoreThanOr() {
         moves("y:1=1|1=1&1=2?5;y:6", 5);
         moves("y:1=2&1=1|1=1?5;y:6", 5);

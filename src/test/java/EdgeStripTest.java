@@ -101,6 +101,14 @@ public final class EdgeStripTest {
         edges.same("abc, abc over", drum.alike(0, 0, true), NONE);
     }
 
+    private static void p32_oneOtherPictureAnywhere() {
+        SlitDrum drum = with("abcd", "zbcd", "azcd", "abzd", "abcz");
+        for (int other = 1; other <= 4; other++) {
+            edges.same("alike(0, " + other + ")", drum.alike(0, other, false), NONE);
+            edges.same("alike(" + other + ", 0) over", drum.alike(other, 0, true), NONE);
+        }
+    }
+
     private static void p32_ofUnlikeLengthsByNone() {
         SlitDrum drum = with("ab", "abab", "a", "aa");
         edges.same("ab, abab", drum.alike(0, 1, false), NONE);

@@ -94,9 +94,20 @@ public final class EdgeTextTest {
     }
 
     private static void p02_theTwoHundredAndFortyFirstIsRefused() {
-        for (int shift = 0; shift < 32; shift += 8) {
-            int one = 0x61 << shift;
-            edges.refused("feed of one more", () -> fed(240), drum -> drum.feed(0, 0, one, 0, 0), NONE, Edges.NO_STATUS);
+        edges.refused("feed of one more", () -> fed(240), drum -> drum.feed(0, 0, 0x6100, 0, 0), NONE, Edges.NO_STATUS);
+    }
+
+    private static void p02_oneByteOfAnyWorthAnywhereIsOne() {
+        for (int worth : new int[] {1, 2, 16, 127, 128, 255}) {
+            for (int place = 0; place < 20; place++) {
+                int[] five = new int[5];
+                five[place / 4] = worth << 24 - place % 4 * 8;
+                SlitDrum drum = fed(239);
+                String what = "feed of " + worth + " at " + place;
+                edges.same(what, drum.feed(five[0], five[1], five[2], five[3], five[4]), 240);
+                edges.same(what + " to 240", drum.feed(five[0], five[1], five[2], five[3], five[4]), NONE);
+                edges.same("count(3)", drum.count(3), 240);
+            }
         }
     }
 
