@@ -566,6 +566,8 @@ public final class EdgeFindTest {
         most("w", 2, 1, "9a", "b", "b");
         most("w", 2, 0, "9b", "a");
         most("w", 2, 25, "az", "bz");
+        most("w", 2, 1, "bx", "by", "c");
+        most("w", 2, 4, "xea", "yeb", "zec");
     }
 
     private static void p43_commonestOfSeveralTheLowest() {

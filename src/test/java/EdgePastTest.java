@@ -250,6 +250,8 @@ public final class EdgePastTest {
         edges.same("forty of 41", drum.count(9), 40);
         for (int left = 39; left >= 0; left--) {
             edges.same("undo()", drum.undo(), left);
+            edges.same("the tick then", drum.count(5), left + 1);
+            edges.same("the place then", drum.wheel(0, 2), (left + 1) % 16);
         }
         edges.same("undo()", drum.undo(), NONE);
         edges.same("the first tick stays", drum.count(5), 1);
@@ -326,6 +328,26 @@ public final class EdgePastTest {
         for (int i = 0; i < 60; i++) {
             edges.same("log(" + i + ", 0)", drum.log(i, 0), (60 - i) % 16);
         }
+    }
+
+    private static void p21_theRowThatWasDroppedIsThereAgain() {
+        for (int rows = 60; rows <= 121; rows++) {
+            SlitDrum drum = Checks.drum("sf1o99;wv1", "abcdefghijkl.");
+            drum.ticks(60);
+            drum.oil(30);
+            for (int i = 60; i < rows; i++) {
+                drum.ticks(1);
+            }
+            drum.ticks(1);
+            drum.undo();
+            edges.same("the oldest of " + rows, drum.log(59, 0), shown(rows - 59));
+            edges.same("the latest of " + rows, drum.log(0, 0), shown(rows));
+        }
+    }
+
+    /** What a wheel of a to l and a blank one shows behind so many ticks. */
+    private static int shown(int tick) {
+        return tick % 13 == 12 ? BLANK : tick % 13;
     }
 
     private static void p21_whatIsNoActStays() {
@@ -577,6 +599,22 @@ public final class EdgePastTest {
         drum.back();
         for (int i = 0; i < 60; i++) {
             edges.same("log(" + i + ", 0)", drum.log(i, 0), (60 - i) % 16);
+        }
+    }
+
+    private static void p45_theRowThatWasDroppedComesBack() {
+        for (int rows = 60; rows <= 121; rows++) {
+            SlitDrum drum = Checks.drum("sf1o99;wv1", "abcdefghijkl.");
+            drum.ticks(60);
+            drum.oil(30);
+            for (int i = 60; i < rows; i++) {
+                drum.ticks(1);
+            }
+            drum.image();
+            drum.ticks(1);
+            drum.back();
+            edges.same("the oldest of " + rows, drum.log(59, 0), shown(rows - 59));
+            edges.same("the latest of " + rows, drum.log(0, 0), shown(rows));
         }
     }
 

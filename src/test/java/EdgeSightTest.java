@@ -244,6 +244,23 @@ public final class EdgeSightTest {
         edges.same("8 and 7", Checks.drum("w;wr1", "abcdefgh", "abcdefg").together(), 56);
     }
 
+    /**
+     * Wheel 0 is at its place at hours 2, 4, 6, 13, 15 and 17 of a day alone: of 61 flashes it stands by 13, 37
+     * and 61. Wheel 1 goes by one of five a day, and by three more from hour 9 to 20: of these it stands by 61.
+     */
+    private static void p26_notBySixtyOne() {
+        SlitDrum drum = by("y:l=5&(t=8|t=20)?3;y:l=2&(t=0&p=0|t>0&t<7|t>11&t<18)?1", "sf1;w;wr1", "ab", "abcde");
+        edges.same("how many of wheel 0", drum.stands(0, NONE), 2);
+        edges.same("the first", drum.stands(0, 0), 13);
+        edges.same("the second", drum.stands(0, 1), 37);
+        edges.same("together()", drum.together(), NONE);
+        for (int k = 1; k <= 6; k++) {
+            drum.flash(k);
+            edges.same("wheel 0 behind " + k + " times 61", drum.at(0, 61), 0);
+            edges.same("wheel 1 behind " + k + " times 61", drum.at(1, 61), 0);
+        }
+    }
+
     private static void p26_byOne() {
         edges.same("still ones", Checks.drum("wv0;wr5;wv3", "abc").together(), 1);
     }

@@ -485,6 +485,33 @@ public final class EdgeTextTest {
         edges.fault(LAW, "y:v&p=1?1", 3);
     }
 
+    private static void p04_lawSomethingIsMissingAheadOfWhatGoesOn() {
+        edges.fault(LAW, "y:?1", 2);
+        edges.fault(LAW, "y:v=?1", 4);
+        edges.fault(LAW, "y:=1?1", 2);
+        edges.fault(LAW, "y:v<&v=1?1", 4);
+        edges.fault(LAW, "y:v>|v=1?1", 4);
+        edges.fault(LAW, "y:!v?1", 4);
+        edges.fault(LAW, "y:!?1", 3);
+        edges.fault(LAW, "y:!!v&v=1?1", 5);
+        edges.fault(LAW, "y:v=1&?1", 6);
+        edges.fault(LAW, "y:v=1|?1", 6);
+        edges.fault(LAW, "y:v=1&&v=1?1", 6);
+        edges.fault(LAW, "y:v=1||v=1?1", 6);
+        edges.fault(LAW, "y:(v=1&)?1", 7);
+        edges.fault(LAW, "y:(v=)?1", 5);
+        edges.fault(LAW, "y:(!v)?1", 5);
+        edges.fault(LAW, "y:v+=1?1", 4);
+        edges.fault(LAW, "y:v=1+?1", 6);
+        edges.fault(LAW, "y:v=1*?1", 6);
+        edges.fault(LAW, "y:v=[1?1", 6);
+        edges.fault(LAW, "y:v=[1+]?1", 7);
+        edges.fault(LAW, "y:v=1?;y:1", 6);
+        edges.fault(LAW, "y:v=1?1+;y:1", 8);
+        edges.fault(LAW, "y:;y:1", 2);
+        edges.fault(LAW, "y;y:1", 1);
+    }
+
     private static void p04_lawNoSignAheadOfANumber() {
         edges.fault(LAW, "y:-1", 2);
         edges.fault(LAW, "y:+1", 2);
