@@ -1,12 +1,19 @@
 import com.sun.management.ThreadMXBean;
 import java.lang.management.ManagementFactory;
+import java.lang.reflect.Array;
+import java.lang.reflect.Field;
+import java.lang.reflect.Modifier;
+import java.util.IdentityHashMap;
+import java.util.Map;
 
 /** Calls make next to nothing: all room is taken when an object, a law or a strip is made. */
 public final class RoomTest {
     private static final Checks checks = new Checks("RoomTest");
     private static final ThreadMXBean threads = (ThreadMXBean) ManagementFactory.getThreadMXBean();
+    private static final Map<Object, Boolean> met = new IdentityHashMap<>();
+    private static long elements = 0;
 
-    public static void main(String[] args) {
+    public static void main(String[] args) throws IllegalAccessException {
         calls(new SlitDrum(), 20);
         long before = taken();
         SlitDrum drum = new SlitDrum();
@@ -21,7 +28,33 @@ public final class RoomTest {
         calls(drum, 12);
         long more = taken() - before;
         checks.same("480 calls take " + more + " bytes more", more < 4000, true);
+        count(drum);
+        checks.same("it has " + met.size() + " objects and arrays", met.size() < 400, true);
+        checks.same("it has " + elements + " fields and elements", elements < 10000, true);
         checks.end();
+    }
+
+    /** Counts an object with all that hangs on it, as the room of a run is counted. */
+    private static void count(Object one) throws IllegalAccessException {
+        if (one == null || met.put(one, true) != null) {
+            return;
+        }
+        if (one.getClass().isArray()) {
+            elements += Array.getLength(one);
+            for (int i = 0; i < Array.getLength(one) && one instanceof Object[]; i++) {
+                count(Array.get(one, i));
+            }
+            return;
+        }
+        for (Class<?> of = one.getClass(); of != Object.class; of = of.getSuperclass()) {
+            for (Field field : of.getDeclaredFields()) {
+                if (!Modifier.isStatic(field.getModifiers())) {
+                    elements++;
+                    field.setAccessible(true);
+                    count(field.getType().isPrimitive() ? null : field.get(one));
+                }
+            }
+        }
     }
 
     private static long taken() {
